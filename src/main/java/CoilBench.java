@@ -598,7 +598,12 @@ public final class CoilBench {
         /** What stands behind a PIN's point is kept as the number of a relay's end. */
         private boolean readEnd(int start) {
             if (kind() == Tokens.NAME) {
-                return readCoilEnd(start, tokens.values[at]);
+                long word = tokens.values[at];
+                if (word != 'p' && word != 'n') {
+                    return false;
+                }
+                at++;
+                return addPin(start, word == 'p' ? 0 : 1);
             }
             if (!passNumber(1, KINDS)) {
                 return false;
@@ -608,14 +613,6 @@ public final class CoilBench {
                 return addPin(start, middle + 1);
             }
             return addPin(start, pass('-') ? middle + 2 : middle);
-        }
-
-        private boolean readCoilEnd(int start, long word) {
-            if (word != 'p' && word != 'n') {
-                return false;
-            }
-            at++;
-            return addPin(start, word == 'p' ? 0 : 1);
         }
 
         private boolean addPin(int start, int end) {
@@ -634,7 +631,7 @@ public final class CoilBench {
         }
 
         private boolean pass(int wanted) {
-            if (kind() != wanted) {
+            if (at >= tokens.size || tokens.kinds[at] != wanted) {
                 return false;
             }
             at++;
@@ -647,7 +644,10 @@ public final class CoilBench {
         }
 
         private boolean passNumber(int low, int high) {
-            if (kind() != Tokens.NUMBER || tokens.values[at] < low || tokens.values[at] > high) {
+            if (at >= tokens.size || tokens.kinds[at] != Tokens.NUMBER) {
+                return false;
+            }
+            if (tokens.values[at] < low || tokens.values[at] > high) {
                 return false;
             }
             number = (int) tokens.values[at];

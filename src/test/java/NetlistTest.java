@@ -213,6 +213,7 @@ final class NetlistTest {
     private static void faultOrder() {
         names("wire ^b.1 plus;key a;key a;");
         names("key a;key ^a;wire b.1 plus;");
+        names("key a;wire a.2 plus;relay ^a 1 1;");
         names("key a;wire ^b.1 a.1;key a;");
         String keys = parts("key ", 24, ";");
         fault(2, keys.length() + 4, keys + "key y;key y;wire q.1 plus;");
