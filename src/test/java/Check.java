@@ -10,7 +10,7 @@ final class Check {
         asked++;
         if (got != want) {
             wrong++;
-            System.out.println(what + " answered " + got + ", due is " + want);
+            System.out.println(what.substring(0, Math.min(what.length(), 200)) + " answered " + got + ", due is " + want);
         }
     }
 
@@ -39,6 +39,35 @@ final class Check {
     static int load(CoilBench x, String text) {
         feed(x, text);
         return x.load(text.length());
+    }
+
+    static void sound(String text, int relays) {
+        CoilBench x = new CoilBench();
+        due("load of " + text, load(x, text), relays);
+        due("wrong(0) of " + text, x.wrong(0), 0);
+        due("wrong(1) of " + text, x.wrong(1), -1);
+    }
+
+    static void fault(int fault, int place, String text) {
+        CoilBench x = new CoilBench();
+        due("load of " + text, load(x, text), -1);
+        due("wrong(0) of " + text, x.wrong(0), fault);
+        due("wrong(1) of " + text, x.wrong(1), place);
+    }
+
+    /** The fault is at the sign behind the mark ^, which is not of the text. */
+    static void faultAt(int fault, String marked) {
+        int place = marked.indexOf('^');
+        fault(fault, place, marked.substring(0, place) + marked.substring(place + 1));
+    }
+
+    /** Parts or the like with the NAMES x0, x1 and so on. */
+    static String parts(String before, int howMany, String behind) {
+        StringBuilder text = new StringBuilder();
+        for (int k = 0; k < howMany; k++) {
+            text.append(before).append("x").append(k).append(behind);
+        }
+        return text.toString();
     }
 
     static CoilBench of(String text) {

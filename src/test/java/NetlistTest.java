@@ -54,126 +54,96 @@ final class NetlistTest {
         Check.due("a load that was -2 tells nothing", x.wrong(0), 1);
     }
 
-    private static void sound(String text, int relays) {
-        CoilBench x = new CoilBench();
-        Check.due("load of " + text, Check.load(x, text), relays);
-        Check.due("wrong(0) of " + text, x.wrong(0), 0);
-        Check.due("wrong(1) of " + text, x.wrong(1), -1);
-    }
-
     private static void soundTexts() {
-        sound("", 0);
-        sound(" \n ", 0);
-        sound("key a;", 0);
-        sound("key a1;key A1;key Key;key p;key n;", 0);
-        sound("key abcdefgh;", 0);
-        sound("relay A 1 20;", 1);
-        sound("relay A 0001 020 break make break make break make;", 1);
-        sound("relay A 1 2break\nmake;", 1);
-        sound("clock c 2 1;clock d 100 99;", 0);
-        sound("diode d;lamp l;wire d.1 l.2;", 0);
-        sound("wire plus minus;", 0);
-        sound("wire plus A.1+ A . 01 - A.p A.n A.1;relay A 3 3 make;", 1);
-        sound("wire p.p n.n p.n;relay p 1 1;relay n 1 1;", 2);
-        sound("wire d.1d.2d.1;diode d;", 0);
-    }
-
-    private static void fault(int fault, int place, String text) {
-        CoilBench x = new CoilBench();
-        Check.due("load of " + text, Check.load(x, text), -1);
-        Check.due("wrong(0) of " + text, x.wrong(0), fault);
-        Check.due("wrong(1) of " + text, x.wrong(1), place);
-        Check.due("wrong(2) of " + text, x.wrong(2), -1);
-        Check.due("wrong(-1) of " + text, x.wrong(-1), -1);
-    }
-
-    /** The fault is at the sign behind the mark. */
-    private static void syntax(String marked) {
-        int place = marked.indexOf('^');
-        fault(1, place, marked.substring(0, place) + marked.substring(place + 1));
+        Check.sound("", 0);
+        Check.sound(" \n ", 0);
+        Check.sound("key a;", 0);
+        Check.sound("key a1;key A1;key Key;key p;key n;", 0);
+        Check.sound("key abcdefgh;", 0);
+        Check.sound("relay A 1 20;", 1);
+        Check.sound("relay A 0001 020 break make break make break make;", 1);
+        Check.sound("relay A 1 2break\nmake;", 1);
+        Check.sound("clock c 2 1;clock d 100 99;", 0);
+        Check.sound("diode d;lamp l;wire d.1 l.2;", 0);
+        Check.sound("wire plus minus;", 0);
+        Check.sound("wire plus A.1+ A . 01 - A.p A.n A.1;relay A 3 3 make;", 1);
+        Check.sound("wire p.p n.n p.n;relay p 1 1;relay n 1 1;", 2);
+        Check.sound("wire d.1d.2d.1;diode d;", 0);
     }
 
     private static void syntaxFaults() {
-        syntax("^;");
-        syntax("^a;");
-        syntax("^Key a;");
-        syntax("^1;");
-        syntax("key^");
-        syntax("key ^");
-        syntax("key ^;");
-        syntax("key a^");
-        syntax("key a  ^");
-        syntax("key a;^;");
-        syntax("key a ^b;");
-        syntax("key ^key;");
-        syntax("key ^plus;");
-        syntax("key ^minus;");
-        syntax("key ^break;");
-        syntax("key ^make;");
-        syntax("key ^wire;");
-        syntax("key ^diode;");
-        syntax("key ^clock;");
-        syntax("key ^lamp;");
-        syntax("key ^relay;");
-        syntax("key ^abcdefghi;");
-        syntax("key ^1a;");
-        syntax("key a^_;");
-        syntax("key^\ta;");
-        syntax("key a;^\0");
-        syntax("relay A ^0 1;");
-        syntax("relay A ^21 1;");
-        syntax("relay A 1 ^0;");
-        syntax("relay A 1 ^21;");
-        syntax("relay A 1^;");
-        syntax("relay A ^;");
-        syntax("relay A ^00001 1;");
-        syntax("relay A 1 1 ^brake;");
-        syntax("relay A 1 1 ^1;");
-        syntax("relay A 1 1 break make break make break make ^break;");
-        syntax("relay A 1 1 break make break make break make ^abcdefghi;");
-        syntax("clock c ^1 1;");
-        syntax("clock c ^101 1;");
-        syntax("clock c 5 ^0;");
-        syntax("clock c 5 ^5;");
-        syntax("clock c 5^;");
-        syntax("wire^;");
-        syntax("wire plus^;");
-        syntax("wire plus minus^");
-        syntax("wire plus^.1 minus;");
-        syntax("wire ^key.1 plus;");
-        syntax("wire plus ^make;");
-        syntax("wire plus ^1;");
-        syntax("wire plus ^.;");
-        syntax("wire plus A^;");
-        syntax("wire plus A.^;");
-        syntax("wire plus A.^q;");
-        syntax("wire plus A.^P;");
-        syntax("wire plus A.^pn;");
-        syntax("wire plus A.^break;");
-        syntax("wire plus A.^7;");
-        syntax("wire plus A.^0;");
-        syntax("wire plus A.^00001;");
-        syntax("wire plus A.p^+;");
-        syntax("wire plus A.1+^+;");
-        syntax("wire plus A.1-^+;");
-        syntax("wire plus A.1 ^2;");
-        syntax("wire plus^-;");
-    }
-
-    private static String parts(String before, int howMany, String behind) {
-        StringBuilder text = new StringBuilder();
-        for (int k = 0; k < howMany; k++) {
-            text.append(before).append("x").append(k).append(behind);
-        }
-        return text.toString();
+        Check.faultAt(1, "^;");
+        Check.faultAt(1, "^a;");
+        Check.faultAt(1, "^Key a;");
+        Check.faultAt(1, "^1;");
+        Check.faultAt(1, "key^");
+        Check.faultAt(1, "key ^");
+        Check.faultAt(1, "key ^;");
+        Check.faultAt(1, "key a^");
+        Check.faultAt(1, "key a  ^");
+        Check.faultAt(1, "key a;^;");
+        Check.faultAt(1, "key a ^b;");
+        Check.faultAt(1, "key ^key;");
+        Check.faultAt(1, "key ^plus;");
+        Check.faultAt(1, "key ^minus;");
+        Check.faultAt(1, "key ^break;");
+        Check.faultAt(1, "key ^make;");
+        Check.faultAt(1, "key ^wire;");
+        Check.faultAt(1, "key ^diode;");
+        Check.faultAt(1, "key ^clock;");
+        Check.faultAt(1, "key ^lamp;");
+        Check.faultAt(1, "key ^relay;");
+        Check.faultAt(1, "key ^abcdefghi;");
+        Check.faultAt(1, "key ^1a;");
+        Check.faultAt(1, "key a^_;");
+        Check.faultAt(1, "key^\ta;");
+        Check.faultAt(1, "key a;^\0");
+        Check.faultAt(1, "relay A ^0 1;");
+        Check.faultAt(1, "relay A ^21 1;");
+        Check.faultAt(1, "relay A 1 ^0;");
+        Check.faultAt(1, "relay A 1 ^21;");
+        Check.faultAt(1, "relay A 1^;");
+        Check.faultAt(1, "relay A ^;");
+        Check.faultAt(1, "relay A ^00001 1;");
+        Check.faultAt(1, "relay A 1 1 ^brake;");
+        Check.faultAt(1, "relay A 1 1 ^1;");
+        Check.faultAt(1, "relay A 1 1 break make break make break make ^break;");
+        Check.faultAt(1, "relay A 1 1 break make break make break make ^abcdefghi;");
+        Check.faultAt(1, "clock c ^1 1;");
+        Check.faultAt(1, "clock c ^101 1;");
+        Check.faultAt(1, "clock c 5 ^0;");
+        Check.faultAt(1, "clock c 5 ^5;");
+        Check.faultAt(1, "clock c 5^;");
+        Check.faultAt(1, "wire^;");
+        Check.faultAt(1, "wire plus^;");
+        Check.faultAt(1, "wire plus minus^");
+        Check.faultAt(1, "wire plus^.1 minus;");
+        Check.faultAt(1, "wire ^key.1 plus;");
+        Check.faultAt(1, "wire plus ^make;");
+        Check.faultAt(1, "wire plus ^1;");
+        Check.faultAt(1, "wire plus ^.;");
+        Check.faultAt(1, "wire plus A^;");
+        Check.faultAt(1, "wire plus A.^;");
+        Check.faultAt(1, "wire plus A.^q;");
+        Check.faultAt(1, "wire plus A.^P;");
+        Check.faultAt(1, "wire plus A.^pn;");
+        Check.faultAt(1, "wire plus A.^break;");
+        Check.faultAt(1, "wire plus A.^7;");
+        Check.faultAt(1, "wire plus A.^0;");
+        Check.faultAt(1, "wire plus A.^00001;");
+        Check.faultAt(1, "wire plus A.p^+;");
+        Check.faultAt(1, "wire plus A.1+^+;");
+        Check.faultAt(1, "wire plus A.1-^+;");
+        Check.faultAt(1, "wire plus A.1 ^2;");
+        Check.faultAt(1, "wire plus^-;");
     }
 
     private static void many(String before, int most, String behind) {
-        String full = parts(before, most, behind);
+        String full = Check.parts(before, most, behind);
         CoilBench x = new CoilBench();
         Check.due("as many as may be of " + before, Check.load(x, full), before.equals("relay ") ? most : 0);
-        fault(2, full.length() + before.length(), full + parts(before, 1, behind));
-        fault(2, full.length() + before.length(), full + before + "y" + behind + before + "z" + behind);
+        Check.fault(2, full.length() + before.length(), full + Check.parts(before, 1, behind));
+        Check.fault(2, full.length() + before.length(), full + before + "y" + behind + before + "z" + behind);
     }
 
     private static void manyFaults() {
@@ -184,43 +154,37 @@ final class NetlistTest {
         many("diode ", 24, ";");
     }
 
-    /** The fault is at the sign behind the mark. */
-    private static void names(String marked) {
-        int place = marked.indexOf('^');
-        fault(3, place, marked.substring(0, place) + marked.substring(place + 1));
-    }
-
     private static void nameFaults() {
-        names("key a;key ^a;");
-        names("key a;relay ^a 1 1;");
-        names("relay a 1 1;clock ^a 2 1;diode a;");
-        names("lamp d;diode ^d;");
-        names("wire ^a.1 plus;");
-        names("wire plus ^a.1;key A;");
-        names("key a;wire ^a.3 plus;");
-        names("key a;wire ^a.1+ plus;");
-        names("key a;wire ^a.1- plus;");
-        names("key a;wire ^a.p plus;");
-        names("lamp a;wire ^a.n plus;");
-        names("clock a 3 1;wire plus ^a.4;");
-        names("diode a;wire plus minus ^a.6;");
-        names("relay A 1 1;wire ^A.1 plus;");
-        names("relay A 1 1 break;wire A.1 ^A.2 plus;");
-        names("relay A 1 1 break;wire A.1+ ^A.2- plus;");
-        names("relay A 1 1 make make make make make;wire A.5 ^A.6 plus;");
+        Check.faultAt(3, "key a;key ^a;");
+        Check.faultAt(3, "key a;relay ^a 1 1;");
+        Check.faultAt(3, "relay a 1 1;clock ^a 2 1;diode a;");
+        Check.faultAt(3, "lamp d;diode ^d;");
+        Check.faultAt(3, "wire ^a.1 plus;");
+        Check.faultAt(3, "wire plus ^a.1;key A;");
+        Check.faultAt(3, "key a;wire ^a.3 plus;");
+        Check.faultAt(3, "key a;wire ^a.1+ plus;");
+        Check.faultAt(3, "key a;wire ^a.1- plus;");
+        Check.faultAt(3, "key a;wire ^a.p plus;");
+        Check.faultAt(3, "lamp a;wire ^a.n plus;");
+        Check.faultAt(3, "clock a 3 1;wire plus ^a.4;");
+        Check.faultAt(3, "diode a;wire plus minus ^a.6;");
+        Check.faultAt(3, "relay A 1 1;wire ^A.1 plus;");
+        Check.faultAt(3, "relay A 1 1 break;wire A.1 ^A.2 plus;");
+        Check.faultAt(3, "relay A 1 1 break;wire A.1+ ^A.2- plus;");
+        Check.faultAt(3, "relay A 1 1 make make make make make;wire A.5 ^A.6 plus;");
     }
 
     private static void faultOrder() {
-        names("wire ^b.1 plus;key a;key a;");
-        names("key a;key ^a;wire b.1 plus;");
-        names("key a;wire a.2 plus;relay ^a 1 1;");
-        names("key a;wire ^b.1 a.1;key a;");
-        String keys = parts("key ", 24, ";");
-        fault(2, keys.length() + 4, keys + "key y;key y;wire q.1 plus;");
-        fault(2, keys.length() + 15 + 4, keys + "wire q.1 x0.1 ;key x0;");
-        fault(1, keys.length() + 6, keys + "key y;;");
-        fault(1, 12, "key a;key a;;");
-        fault(2, parts("diode ", 24, ";").length() + 6, parts("diode ", 24, ";") + "diode x;" + keys + "key z;");
+        Check.faultAt(3, "wire ^b.1 plus;key a;key a;");
+        Check.faultAt(3, "key a;key ^a;wire b.1 plus;");
+        Check.faultAt(3, "key a;wire a.2 plus;relay ^a 1 1;");
+        Check.faultAt(3, "key a;wire ^b.1 a.1;key a;");
+        String keys = Check.parts("key ", 24, ";");
+        Check.fault(2, keys.length() + 4, keys + "key y;key y;wire q.1 plus;");
+        Check.fault(2, keys.length() + 15 + 4, keys + "wire q.1 x0.1 ;key x0;");
+        Check.fault(1, keys.length() + 6, keys + "key y;;");
+        Check.fault(1, 12, "key a;key a;;");
+        Check.fault(2, Check.parts("diode ", 24, ";").length() + 6, Check.parts("diode ", 24, ";") + "diode x;" + keys + "key z;");
     }
 
     private static void loadKeepsOrReplaces() {

@@ -13,7 +13,6 @@ final class RaceBackTest {
         forgotten();
         wornContacts();
         oneTickOrders();
-        everyOrder();
         back();
         backKeepsOnlyHundred();
         adder();
@@ -164,37 +163,6 @@ final class RaceBackTest {
         told(x, 1, 2, 0, 1);
         x.tick(10);
         Check.due("by ticks C isn't picked", x.relay(2, 0), 0);
-    }
-
-    /**
-     * X is picked when the one is at the front, the next just between and the last still at the back; Y, when X
-     * was and the third is just between, and holds itself. So Y is picked by one order of the four only.
-     */
-    private static void everyOrder() {
-        for (int code = 0; code < 256; code++) {
-            int a = code & 3;
-            int b = code >> 2 & 3;
-            int c = code >> 4 & 3;
-            int d = code >> 6;
-            if ((1 << a | 1 << b | 1 << c | 1 << d) == 15) {
-                CoilBench x = Check.of(fourAnd("wire plus R" + a + ".1;wire R" + a + ".1+ R" + b + ".2;wire R" + b
-                    + ".2+ R" + b + ".3;wire R" + b + ".3- R" + d + ".1;wire R" + d + ".1- X.p;wire plus X.1;wire X.1+ R"
-                    + c + ".2;wire R" + c + ".2+ R" + c + ".3;wire R" + c + ".3- Y.p Y.1+;wire plus Y.1;"));
-                x.key(0, true);
-                Check.due("race by one order", x.race(1), 1);
-                told(x, 1, 4, 0, 1, 2, 3);
-                x.tick(20);
-                Check.due("by ticks Y isn't picked", x.relay(5, 0), 0);
-            }
-        }
-    }
-
-    private static String fourAnd(String wires) {
-        StringBuilder text = new StringBuilder("key k;wire plus k.1;");
-        for (int r = 0; r < 4; r++) {
-            text.append("relay R" + r + " 1 1 break make make;wire k.2 R" + r + ".p;wire minus R" + r + ".n;");
-        }
-        return text + "relay X 1 1 make;relay Y 1 1 make;wire minus X.n Y.n;" + wires;
     }
 
     private static void back() {
