@@ -682,6 +682,12 @@ final class CallsBoundsTest {
             Check.due("stuck(1, 1, " + far + ")", far == -1 || !x.stuck(1, 1, far), true);
         }
         same("behind refused ones", x, ahead);
+        stuckAtAll();
+    }
+
+    private static void stuckAtAll() {
+        CoilBench x = Check.of(BENCH);
+        String ahead = all(x);
         for (int how = -1; how <= 2; how++) {
             for (int c = 1; c <= 6; c++) {
                 Check.due("stuck(2, " + c + ", " + how + ")", x.stuck(2, c, how), true);
