@@ -13,6 +13,7 @@ final class StatesBoundsTest {
         fedAgainAheadOfItsTime();
         contactsAtTheirEnds();
         contactsThatTurnRound();
+        contactsOfCoilsThatCount();
         contactsByKind();
         stuckByKind();
         dusty();
@@ -174,6 +175,27 @@ final class StatesBoundsTest {
             x.tick(1);
             contacts(x, "at " + (t + 1), due[t]);
         }
+    }
+
+    /** "goes one towards 2 if its coil is picked (by now), else one towards 0": whatever its COUNT is. */
+    private static void contactsOfCoilsThatCount() {
+        CoilBench x = oneCoil(1, 4, " break make break make break make");
+        x.key(0, true);
+        x.tick(1);
+        x.key(0, false);
+        x.tick(1);
+        coil(x, "that loses", 1, 1);
+        contacts(x, "of one that loses", 2);
+        CoilBench y = oneCoil(4, 1, " break make break make break make");
+        y.key(0, true);
+        y.tick(6);
+        y.key(0, false);
+        y.tick(1);
+        contacts(y, "of one that dropped", 1);
+        y.key(0, true);
+        y.tick(1);
+        coil(y, "that gains", 0, 1);
+        contacts(y, "of one that gains", 0);
     }
 
     /** Which of the ends are LIVE when plus is wired to one of them: bits 1 the middle, 2 the front, 4 the back. */
