@@ -218,7 +218,7 @@ final class NetlistBoundsTest {
         Check.faultAt(1, "relay A ^65 1;");
     }
 
-    /** "P, D: NUMBERS 1 to 20". */
+    /** "P, D: NUMBERS 1 to 20", "a NUMBER that isn't within what is told". */
     private static void coilTimes() {
         for (int time = 0; time <= 22; time++) {
             String first = "relay A " + time + " 7;";
@@ -369,7 +369,7 @@ final class NetlistBoundsTest {
         Check.faultAt(1, "relay A 1 1 make;wire plus A.1^.1;");
     }
 
-    /** "of a key, lamp, clock 1 or 2; of a diode 1 or 2", "+ or - of what is no relay's contact, and so on". */
+    /** "of a key, lamp, clock 1 or 2; of a diode 1 (where it is gone in) or 2", "+ or - of what is no relay's contact". */
     private static void otherPins() {
         for (int sort = 1; sort < 5; sort++) {
             String text = SORTS[sort] + " a" + BEHIND[sort] + "wire plus ";

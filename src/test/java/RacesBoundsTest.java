@@ -233,8 +233,9 @@ final class RacesBoundsTest {
     }
 
     /**
-     * "all orders of these": of four. X is picked when the one is at the front, the next just between and the last still at the back; Y, when X
-     * was and the third is just between, and holds itself. So Y is picked by one order of the four only.
+     * "all orders of these": of four. X is picked when the one is at the front, the next just between and the last
+     * still at the back; Y, when X was and the third is just between, and holds itself. So Y is picked by one order
+     * of the four only.
      */
     private static void allOrdersOfFour() {
         for (int code = 0; code < 256; code++) {

@@ -460,7 +460,7 @@ final class StatesBoundsTest {
         }
     }
 
-    /** "By what is JOINED now (POSITIONS as they are), each coil": in the same tick none acts on another. */
+    /** "By what is JOINED now", "POSITIONS as they are": in the same tick no coil acts on another. */
     private static void allCoilsAtOnce() {
         String[] told = {"relay A 1 1 make;relay B 1 1;", "relay B 1 1;relay A 1 1 make;"};
         for (int a = 0; a < 2; a++) {

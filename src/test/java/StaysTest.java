@@ -240,6 +240,11 @@ final class StaysTest {
             }
             s.append(x.relay(6, 0)).append(' ');
         });
+        leavesAll("coils, COUNTS, POSITIONS", "112 132 010 010 010 00-1 ", (x, s) -> {
+            for (int r = 0; r < 6; r++) {
+                s.append(x.relay(r, 0)).append(x.relay(r, 1)).append(x.contact(r, 1)).append(' ');
+            }
+        });
         leavesAll("contact, lamp, net", "2 -1 -1 0 0 -1 1 -1 ", (x, s) -> {
             s.append(x.contact(0, 1)).append(' ').append(x.contact(0, 3)).append(' ').append(x.contact(5, 1)).append(' ');
             s.append(x.lamp(0)).append(' ').append(x.lamp(1)).append(' ').append(x.lamp(2)).append(' ');
